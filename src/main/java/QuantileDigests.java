@@ -335,19 +335,13 @@ public final class QuantileDigests {
         int start = 0;
         for (int parts = 0; parts < TEXT_LIMIT && start < text.length(); parts++) {
             part.readFrom(text, start);
-            letCome(part.values, state.digestAt(part.digest));
+            Digest asked = state.digestAt(part.digest);
+            for (int i = 0; asked != null && i < part.values.length(); i++) {
+                asked.receive(part.values.at(i), state.settings);
+            }
             start = part.end;
         }
         return state.weight();
-    }
-
-    private void letCome(Row values, Digest digest) {
-        if (digest == null) {
-            return;
-        }
-        for (int i = 0; i < values.length(); i++) {
-            digest.receive(values.at(i), state.settings);
-        }
     }
 
     private void packOnTrial(Digest digest) {
@@ -602,8 +596,8 @@ public final class QuantileDigests {
         }
 
         /**
-         * The least and the greatest value stand as points of the weight 1 ahead of the first place
-         * and behind the last one; at a place itself both of its neighbours tell the same.
+         * The least value is taken as a middle at the place 0, the greatest one as a middle at the place 1000 * N,
+         * so that one rule serves all three cases; at a place itself the case ahead and the one behind tell the same.
          */
         int quantileAt(int q) {
             int total = weights.total();

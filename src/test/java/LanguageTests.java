@@ -19,7 +19,7 @@ public final class LanguageTests {
             Matcher matcher = Pattern.compile(word).matcher(code);
             Due.holds("no " + word + " in the class", !matcher.find());
         }
-        Matcher longest = Pattern.compile("(?m)^ {4,8}\\S.*\\) \\{\\n((?! {4,8}\\}\\n).*\\n){60,}? {4,8}\\}\\n").matcher(code);
+        Matcher longest = Pattern.compile("(?m)^( +)\\S.*\\) \\{\\n(?:(?!\\1\\}\\n).*\\n){60,}?\\1\\}\\n").matcher(code);
         Due.holds("no method of over sixty lines", !longest.find());
         Due.end();
     }
