@@ -38,27 +38,6 @@ public final class PromiseTests {
         Due.due(call, got, want);
     }
 
-    private static QuantileDigests holding(int... values) {
-        QuantileDigests x = new QuantileDigests();
-        for (int value : values) {
-            x.add(0, value, 1);
-        }
-        return x;
-    }
-
-    private static void write(QuantileDigests x, String text) {
-        x.clearText();
-        for (int i = 0; i < text.length(); i++) {
-            x.type(text.charAt(i));
-        }
-    }
-
-    private static void fillTo(QuantileDigests x, int digest, int weight) {
-        for (int missing = weight; missing > 0; missing -= 20) {
-            x.add(digest, 1, Math.min(20, missing));
-        }
-    }
-
     private static void newObject() {
         QuantileDigests x = new QuantileDigests();
         for (int digest = 0; digest < 3; digest++) {
@@ -88,7 +67,7 @@ public final class PromiseTests {
         due("2: 0 times", x.add(0, 5, 0), INVALID);
         due("2: 21 times", x.add(0, 5, 21), INVALID);
         due("2: least int times", x.add(0, 5, Integer.MIN_VALUE), INVALID);
-        fillTo(x, 1, 199);
+        Made.fillTo(x, 1, 199);
         due("2: 201 would be too much", x.add(1, 5, 2), LIMIT);
         due("2: 200 is not", x.add(1, 5, 1), 200);
         due("2: nothing more", x.add(1, 5, 1), LIMIT);
@@ -96,7 +75,7 @@ public final class PromiseTests {
     }
 
     private static void addPacksAFullBuffer() {
-        QuantileDigests x = holding(4, 3, 2, 1, 0);
+        QuantileDigests x = Made.holding(4, 3, 2, 1, 0);
         due("2: buffer full", x.digestOf(0, 2), 5);
         due("2: not packed yet", x.digestOf(0, 8), 0);
         x.add(0, 9, 1);
@@ -121,7 +100,7 @@ public final class PromiseTests {
         due("3: buffer empty", x.digestOf(0, 2), 0);
         // N = 4, setting 0 = 2: w 2 goes 2*4*2=16 against 2*6=12 for the first pair (no), with W = 1
         // 16 against 4*4=16 (yes, just), w 3: 24 against 5*3=15 (no), with W = 3 there is none behind.
-        x = holding(1, 2, 3, 4);
+        x = Made.holding(1, 2, 3, 4);
         x.set(0, 2);
         due("3: only the middle two fit", x.pack(0), 3);
         due("3: first", x.heapOf(0, 0, 0), 1);
@@ -138,7 +117,7 @@ public final class PromiseTests {
 
     private static void packOrdersByMiddles() {
         // One heap of 0 and 3 (middle 3/2), then 1 and 2: the order is 1, 3/2, 2, though whole middles are 1, 1, 2.
-        QuantileDigests x = holding(0, 3);
+        QuantileDigests x = Made.holding(0, 3);
         x.set(0, 1);
         x.pack(0);
         x.set(0, 60);
@@ -150,7 +129,7 @@ public final class PromiseTests {
         due("3: its whole middle", x.heapOf(0, 1, 4), 1);
         due("3: 2 last", x.heapOf(0, 2, 1), 2);
         // A heap of 4 and 6 and a 5 that came later have like middles: the heap stays ahead.
-        x = holding(4, 6);
+        x = Made.holding(4, 6);
         x.set(0, 1);
         x.pack(0);
         x.set(0, 60);
@@ -161,7 +140,7 @@ public final class PromiseTests {
     }
 
     private static void join() {
-        QuantileDigests x = holding(1, 2, 3);
+        QuantileDigests x = Made.holding(1, 2, 3);
         x.set(0, 60);
         x.add(1, 5, 2);
         due("4: join(0, 1)", x.join(0, 1), 5);
@@ -182,12 +161,12 @@ public final class PromiseTests {
         due("4: empty into full", x.join(2, 1), 5);
         due("4: full into empty", x.join(1, 2), 5);
         x = new QuantileDigests();
-        fillTo(x, 0, 100);
-        fillTo(x, 1, 101);
+        Made.fillTo(x, 0, 100);
+        Made.fillTo(x, 1, 101);
         due("4: 201", x.join(0, 1), LIMIT);
         due("4: no pack by an error", x.digestOf(0, 2), 5);
         due("4: error order", x.join(0, 0), INVALID);
-        fillTo(x, 2, 100);
+        Made.fillTo(x, 2, 100);
         due("4: 200", x.join(0, 2), 200);
         // Of like middles the latter's heaps are the earlier ones.
         x = new QuantileDigests();
@@ -203,7 +182,7 @@ public final class PromiseTests {
     }
 
     private static void clear() {
-        QuantileDigests x = holding(1, 2, 3, 4, 5, 6);
+        QuantileDigests x = Made.holding(1, 2, 3, 4, 5, 6);
         due("5: clear(0)", x.clear(0), 6);
         due("5: weight", x.digestOf(0, 0), 0);
         due("5: heaps", x.digestOf(0, 1), 0);
@@ -241,7 +220,7 @@ public final class PromiseTests {
     }
 
     private static void heapOf() {
-        QuantileDigests x = holding(1, 2, 4);
+        QuantileDigests x = Made.holding(1, 2, 4);
         x.set(0, 1);
         x.pack(0);
         int[] dues = {3, 7, 1, 4, 2, 0, Float.floatToIntBits(7f / 3f)};
@@ -257,7 +236,7 @@ public final class PromiseTests {
         due("7: digest 3", x.heapOf(3, 0, 0), INVALID);
         due("7: digest -1", x.heapOf(-1, 0, 0), INVALID);
         for (int value : new int[] {0, 1, 2, 3, 4095, 4096, 9999}) {
-            x = holding(value);
+            x = Made.holding(value);
             x.pack(0);
             due("7: bits of " + value, x.heapOf(0, 0, 6), Float.floatToIntBits((float) value));
         }
@@ -265,7 +244,7 @@ public final class PromiseTests {
     }
 
     private static void bitsOfSmallMiddles() {
-        QuantileDigests x = holding(1);
+        QuantileDigests x = Made.holding(1);
         x.set(0, 1);
         for (int weight = 1; weight < 200; weight += 19) {
             x.pack(0);
@@ -275,7 +254,7 @@ public final class PromiseTests {
     }
 
     private static void bufferOf() {
-        QuantileDigests x = holding(7, 3, 7, 0);
+        QuantileDigests x = Made.holding(7, 3, 7, 0);
         due("8: first", x.bufferOf(0, 0), 7);
         due("8: second", x.bufferOf(0, 1), 3);
         due("8: last", x.bufferOf(0, 3), 0);
@@ -289,7 +268,7 @@ public final class PromiseTests {
     }
 
     private static void digestOf() {
-        QuantileDigests x = holding(50, 10, 90);
+        QuantileDigests x = Made.holding(50, 10, 90);
         int[] dues = {3, 0, 3, 10, 90, 150, 3, NOT_FOUND, 0};
         for (int what = 0; what < dues.length; what++) {
             due("9: in the buffer, what " + what, x.digestOf(0, what), dues[what]);
@@ -315,7 +294,7 @@ public final class PromiseTests {
     }
 
     private static void quantile() {
-        QuantileDigests x = holding(50, 10, 90, 30, 70);
+        QuantileDigests x = Made.holding(50, 10, 90, 30, 70);
         due("10: first", x.quantile(0, 0), 10);
         due("10: at a place", x.quantile(0, 100), 10);
         due("10: between", x.quantile(0, 250), 25);
@@ -337,14 +316,14 @@ public final class PromiseTests {
         due("10: empty", x.quantile(1, 0), NOT_POSSIBLE);
         due("10: error order", x.quantile(1, 1001), INVALID);
         // Middle 1/2 at 1000, greatest 1: 1/2 + 1/2 * 999 / 1000 stays below 1.
-        x = holding(0, 1);
+        x = Made.holding(0, 1);
         x.set(0, 1);
         due("10: fractions are not rounded on the way", x.quantile(0, 999), 0);
         due("10: end", x.quantile(0, 1000), 1);
     }
 
     private static void truth() {
-        QuantileDigests x = holding(50, 10, 90, 30, 70);
+        QuantileDigests x = Made.holding(50, 10, 90, 30, 70);
         x.set(0, 1);
         x.pack(0);
         due("11: first", x.truth(0, 0), 10);
@@ -361,7 +340,7 @@ public final class PromiseTests {
     }
 
     private static void worst() {
-        QuantileDigests x = holding(0, 100);
+        QuantileDigests x = Made.holding(0, 100);
         x.set(0, 1);
         // Quantiles are 0, 10, .. 100, true ones 0 up to q 999: farthest at 900 by 90.
         due("12: q", x.worst(0, 0), 900);
@@ -385,7 +364,7 @@ public final class PromiseTests {
     }
 
     private static void rank() {
-        QuantileDigests x = holding(50, 10, 90, 30, 70);
+        QuantileDigests x = Made.holding(50, 10, 90, 30, 70);
         due("13: below all", x.rank(0, 9), -1);
         due("13: least", x.rank(0, 10), 109);
         due("13: between", x.rank(0, 49), 499);
@@ -399,15 +378,15 @@ public final class PromiseTests {
         due("13: digest -1", x.rank(-1, 0), INVALID);
         due("13: empty", x.rank(1, 0), NOT_POSSIBLE);
         due("13: error order", x.rank(1, 10000), INVALID);
-        x = holding(0);
+        x = Made.holding(0);
         due("13: of 0", x.rank(0, 0), 1000);
-        x = holding(0, 9999);
+        x = Made.holding(0, 9999);
         x.set(0, 1);
         due("13: q 0 alone", x.rank(0, 0), 0);
     }
 
     private static void width() {
-        QuantileDigests x = holding(1, 2, 30, 400);
+        QuantileDigests x = Made.holding(1, 2, 30, 400);
         x.set(0, 2);
         // Packed: 1 | 2, 30 | 400.
         due("14: first", x.width(0, 0), 0);
@@ -425,7 +404,7 @@ public final class PromiseTests {
     }
 
     private static void settingFor() {
-        QuantileDigests x = holding(1, 2, 3, 4);
+        QuantileDigests x = Made.holding(1, 2, 3, 4);
         // By setting 1 there is one heap, by 2 there are three (see pack), by 3 the middle two don't fit: 24 against 16.
         due("15: one", x.settingFor(0, 1), 1);
         due("15: two", x.settingFor(0, 2), 2);
@@ -446,7 +425,7 @@ public final class PromiseTests {
     }
 
     private static void count() {
-        QuantileDigests x = holding(1, 2, 3);
+        QuantileDigests x = Made.holding(1, 2, 3);
         x.add(2, 4, 2);
         x.pack(0);
         x.pack(2);
@@ -496,7 +475,7 @@ public final class PromiseTests {
     }
 
     private static void undoOfEachChange() {
-        QuantileDigests x = holding(1);
+        QuantileDigests x = Made.holding(1);
         x.pack(0);
         due("17: after pack", x.count(2), 2);
         x.join(0, 1);
@@ -532,7 +511,7 @@ public final class PromiseTests {
     private static void clearText() {
         QuantileDigests x = new QuantileDigests();
         due("19: empty", x.clearText(), 0);
-        write(x, "0:5;");
+        Made.write(x, "0:5;");
         due("19: four", x.clearText(), 4);
         due("19: none", x.count(3), 0);
         due("19: it is no change", x.count(2), 0);
@@ -542,7 +521,7 @@ public final class PromiseTests {
 
     private static void dueFault(String text, int position, int reason, int cause) {
         QuantileDigests x = new QuantileDigests();
-        write(x, text);
+        Made.write(x, text);
         due("20: position in " + text, x.fault(0), position);
         due("20: reason in " + text, x.fault(1), reason);
         due("20: cause in " + text, x.fault(2), cause);
@@ -560,14 +539,14 @@ public final class PromiseTests {
         QuantileDigests x = new QuantileDigests();
         due("20: what -1", x.fault(-1), INVALID);
         due("20: what 3", x.fault(3), INVALID);
-        fillTo(x, 0, 197);
-        write(x, "0:1,2;1:1;0:3;");
+        Made.fillTo(x, 0, 197);
+        Made.write(x, "0:1,2;1:1;0:3;");
         due("20: 200 are possible", x.fault(0), NOT_FOUND);
-        write(x, "0:1,2;1:1;0:3,4;0:;");
+        Made.write(x, "0:1,2;1:1;0:3,4;0:;");
         due("20: 201 are not: position", x.fault(0), 10);
         due("20: reason", x.fault(1), 3);
         due("20: cause", x.fault(2), NOT_FOUND);
-        write(x, "0:1,2,3,4");
+        Made.write(x, "0:1,2,3,4");
         due("20: form ahead of weight", x.fault(1), 1);
     }
 
@@ -603,7 +582,7 @@ public final class PromiseTests {
         QuantileDigests x = new QuantileDigests();
         due("21: empty text", x.play(), 0);
         due("21: is a change", x.count(2), 1);
-        write(x, "0:5,4,3,2,1,0;2:0012;0:7;");
+        Made.write(x, "0:5,4,3,2,1,0;2:0012;0:7;");
         due("21: play()", x.play(), 8);
         due("21: one change", x.count(2), 2);
         due("21: text stays", x.count(3), 25);
@@ -618,16 +597,16 @@ public final class PromiseTests {
         due("21: fault", x.play(), NOT_POSSIBLE);
         due("21: nothing came", x.count(0), 8);
         due("21: no change", x.count(2), 2);
-        fillTo(x, 1, 199);
-        write(x, "0:1;1:1,2;");
+        Made.fillTo(x, 1, 199);
+        Made.write(x, "0:1;1:1,2;");
         due("21: too heavy", x.play(), NOT_POSSIBLE);
         due("21: not even its first part", x.count(0), 207);
-        write(x, "1:1;");
+        Made.write(x, "1:1;");
         due("21: just 200", x.play(), 208);
     }
 
     private static void errorsChangeNothing() {
-        QuantileDigests x = holding(1, 2);
+        QuantileDigests x = Made.holding(1, 2);
         x.add(3, 1, 1);
         x.add(0, 1, 21);
         x.pack(3);
