@@ -126,7 +126,7 @@ final class PackingSentences {
         x.join(0, 1);
         s.due("the last heap of the weight 1", x.heapOf(1, 35, 0), 1);
         s.due("the first one of the weight 2", x.heapOf(1, 36, 0), 2);
-        // At W = 67 a third one would fit (36000 at most 137 * 263 = 36031): so at W = 68, behind pairs from 36 on.
+        // A third one doesn't fit at W = 66 (36000 is above 135 * 265 = 35775), but at W = 68 (139 * 261 = 36279).
         s.due("the last pair ahead", x.heapOf(1, 51, 0), 2);
         s.due("the first one of the weight 3", x.heapOf(1, 52, 0), 3);
         s.due("its weight ahead", x.heapOf(1, 52, 5), 68);

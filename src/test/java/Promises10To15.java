@@ -26,6 +26,7 @@ final class Promises10To15 {
         worstInvalid();
         worstEmpty();
         rank();
+        rankOfEachQ();
         rankDigest();
         rankValue();
         rankNone();
@@ -210,6 +211,18 @@ final class Promises10To15 {
         s.due("it is not packed", one.digestOf(0, 8), 0);
     }
 
+    /** Of 0 and 9999 in one heap the quantile for q is 9.999 * q, so that each q has values of its own. */
+    private static void rankOfEachQ() {
+        Sentence s = new Sentence("Promise 13", "how many thousandths of the weight are told to be at most as great as a value");
+        QuantileDigests x = holdingBy(1, 0, 9999);
+        for (int q = 0; q <= 1000; q++) {
+            if (q % 250 == 0) {
+                x = holdingBy(1, 0, 9999);
+            }
+            s.due("the quantile of " + q, x.rank(0, 9999 * q / 1000), q);
+        }
+    }
+
     private static void rankDigest() {
         Sentence s = new Sentence("Promise 13", DIGEST);
         QuantileDigests x = Made.holding(5);
@@ -355,6 +368,9 @@ final class Promises10To15 {
         // 4 is at most 4, 8 is not.
         s.due("the least one", x.settingFor(0, 1), 1);
         s.due("two heaps", x.settingFor(0, 2), 2);
+        // By 32 144 * 32 is just at most 48 * 96: 13 pairs from there to 96 * 48. By 33 there are 11 from 52 * 92 on.
+        Made.fillTo(x, 1, 72);
+        s.due("the greatest one that can be needed", x.settingFor(1, 60), 33);
     }
 
     private static void settingForInvalid() {

@@ -17,6 +17,7 @@ final class Promises1To6 {
         packReturns();
         packInvalid();
         join();
+        joinHeaps();
         joinFormer();
         joinDigest();
         joinInto();
@@ -192,6 +193,27 @@ final class Promises1To6 {
         s.due("empty ones, the latter is packed twice", empty.digestOf(1, 8), 2);
     }
 
+    private static void joinHeaps() {
+        Sentence s = new Sentence("Promise 4", "Joins a digest into another one");
+        // The heap of 20 and 40 comes ahead of the heap of 10 and 90, and both keep their ends.
+        QuantileDigests x = Made.holding(20, 40);
+        Made.put(x, 1, 10, 90);
+        x.set(0, 1);
+        x.pack(0);
+        x.pack(1);
+        x.set(0, 60);
+        x.join(0, 1);
+        s.due("least of the former's heap", x.heapOf(1, 0, 2), 20);
+        s.due("greatest of the former's heap", x.heapOf(1, 0, 3), 40);
+        s.due("least of the latter's heap", x.heapOf(1, 1, 2), 10);
+        s.due("greatest of the latter's heap", x.heapOf(1, 1, 3), 90);
+        x.join(1, 0);
+        s.due("least value then", x.digestOf(0, 3), 10);
+        s.due("greatest value then", x.digestOf(0, 4), 90);
+        s.due("least quantile then", x.quantile(0, 0), 10);
+        s.due("greatest quantile then", x.quantile(0, 1000), 90);
+    }
+
     private static void joinFormer() {
         Sentence s = new Sentence("Promise 4", "the former stays (packed).");
         QuantileDigests x = Made.holding(1, 3, 5, 7);
@@ -277,6 +299,11 @@ final class Promises1To6 {
         s.due("another one stays", x.digestOf(1, 0), 1);
         x.add(0, 8, 1);
         s.due("later values alone are true ones", x.truth(0, 0), 8);
+        x.pack(0);
+        s.due("a later heap has the least value of its own", x.heapOf(0, 0, 2), 8);
+        s.due("and the greatest value of its own", x.heapOf(0, 0, 3), 8);
+        s.due("later values alone have a least one", x.digestOf(0, 3), 8);
+        s.due("and a greatest one", x.digestOf(0, 4), 8);
     }
 
     private static void clearPacks() {

@@ -88,6 +88,7 @@ final class Promises7To9 {
 
     private static void heapOfMiddle() {
         Sentence s = new Sentence("Promise 7", "4: its middle, rounded down;");
+        s.due("9999 / 1", heapOf(9999).heapOf(0, 0, 4), 9999);
         s.due("1 / 2", heapOf(0, 1).heapOf(0, 0, 4), 0);
         s.due("2 / 3", heapOf(0, 1, 1).heapOf(0, 0, 4), 0);
         s.due("3 / 3", heapOf(0, 1, 2).heapOf(0, 0, 4), 1);

@@ -97,7 +97,7 @@ final class QuantileSentences {
         s.due("ahead of the second place: 100 * 997 / 1000", x.quantile(0, 499), 99);
         s.due("at the second place", x.quantile(0, 500), 100);
         s.due("behind it: 100 + 900 * 3 / 1000", x.quantile(0, 501), 102);
-        // Heaps of 0 and 100 with 50, 50 ahead and behind have like middles: nothing grows between them.
+        // The heap of 0 and 100 and two 50 behind it have like middles: nothing grows between them.
         QuantileDigests like = Made.holding(0, 100);
         Made.packToOne(like, 0);
         like.add(0, 50, 2);
