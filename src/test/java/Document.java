@@ -40,14 +40,18 @@ final class Document {
         }
     }
 
-    private static boolean isThere() {
+    static boolean isThere() {
         return !CLAUSES.isEmpty();
+    }
+
+    static String wordsOf(String section) {
+        return String.join(" ", CLAUSES.getOrDefault(section, List.of()));
     }
 
     /** A test names its sentence: it must stand there, and have no other test. */
     static void tested(String section, String words) {
-        String text = String.join(" ", CLAUSES.getOrDefault(section, List.of()));
-        Due.holds("the document says under " + section + ": " + words, !isThere() || text.contains(words));
+        Due.holds("the document says under " + section + ": " + words,
+            !isThere() || wordsOf(section).contains(words));
         List<String> told = TESTED.computeIfAbsent(section, key -> new ArrayList<>());
         Due.holds("one test alone is for " + section + ": " + words, !told.contains(words));
         told.add(words);
